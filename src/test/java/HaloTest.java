@@ -14,6 +14,7 @@ public final class HaloTest {
         middlesStayInTheRoom();
         boundGrainsByAnEdge();
         unboundOneByOne();
+        pushesOfOne();
         boundAmongHolds();
         boundInAPicture();
         noSuchHalos();
@@ -200,6 +201,15 @@ public final class HaloTest {
         DUE.is("one of 62 is", 1 + 2 + 4 + 64 + 128 + 256, x.bound(-1, 0));
         x.pull(10000, 100);
         DUE.is("all are held", 511, x.bound(-1, 0));
+    }
+
+    // Speeds are -1 for 3 4 5 and 0 for all others, -1 together: the others have a push of 1.
+    private static void pushesOfOne() {
+        Halofinder x = new Halofinder();
+        x.universe(3);
+        x.ripple(1, 0, 1, 0);
+        x.link(1500, 9);
+        DUE.is("a push of 1 is above no hold", 8 + 16 + 32, x.bound(-1, 0));
     }
 
     private static void boundAmongHolds() {

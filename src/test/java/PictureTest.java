@@ -9,6 +9,7 @@ public final class PictureTest {
         foundOverOnePictureAtMost();
         comingMainlyFrom();
         laterPicturesComeFirst();
+        comingFromTheMost();
         trees();
         branchesOfOne();
         noSuchHalos();
@@ -139,6 +140,25 @@ public final class PictureTest {
         DUE.is("four go on in it", 4, x.tree(2, 0, 1));
         DUE.is("six and itself", 7, x.tree(2, 0, 2));
         DUE.is("its branch", 3, x.tree(2, 0, 0));
+        DUE.is("that does not count for another tree", 2, x.tree(1, 0, 2));
+    }
+
+    // Halo 0 of picture 0 leaves grain 2 behind; halo 1 comes whole.
+    private static void comingFromTheMost() {
+        Halofinder x = new Halofinder();
+        x.universe(3);
+        x.ripple(2, -1, 900, 2);
+        x.ripple(2, 1, 900, 3);
+        x.link(900, 1);
+        x.keep();
+        x.step(10);
+        x.link(1200, 1);
+        x.keep();
+        DUE.is("grains 0 2 3 5", 1 + 4 + 8 + 32, x.grains(0, 0));
+        DUE.is("grains 1 4 6 8", 2 + 16 + 64 + 256, x.grains(0, 1));
+        DUE.is("all but 2 and 7", 511 - 4 - 128, x.grains(1, 0));
+        nexts(x, 0, 100, 100, 102);
+        froms(x, 1, 1, -1, 2);
     }
 
     private static void tree(Halofinder x, int picture, int halo, int branch, int origins, int all) {

@@ -52,6 +52,8 @@ public final class SkyTest {
         DUE.is("but not within 924", 0, x.seen());
         x.observe(0, 0, 4000);
         DUE.is("all within 4000", 2, x.seen());
+        x.observe(4095, 4095, 4000);
+        sky(x, 0, 0, 925, 918, 1, 1);
     }
 
     private static void earlierPicturesAreFarther() {
@@ -87,6 +89,7 @@ public final class SkyTest {
         DUE.is("cold gas alone", 0, x.seen());
         x.recipes(5, 1000, 0);
         DUE.is("one star each", 2, x.seen());
+        DUE.is("which gets a spectrum", 1, x.sky(1, 4));
         x.recipes(4, 1000, 0);
         DUE.is("no star", 0, x.seen());
         x.recipes(1000, 1000, 0);
@@ -108,7 +111,7 @@ public final class SkyTest {
         int[][] parts = {{0, 0, 0}, {5, 0, 0}, {-5, 0, 0}, {0, 5, 3}, {0, -5, 7}, {5, 3, 0}, {3, 5, 1}, {-3, 5, 3},
             {-5, 3, 2}, {-5, -3, 4}, {-3, -5, 5}, {3, -5, 7}, {5, -3, 6}, {5, 5, 0}, {-5, 5, 2}, {-5, -5, 4},
             {5, -5, 6}, {-2048, -2048, 4}, {-2048, 2047, 2}, {2047, -2048, 7}, {0, -2048, 7}, {-2048, 0, 0},
-            {4, 5, 1}, {-4, -5, 5}};
+            {4, 5, 1}, {-4, -5, 5}, {1, -1, 6}, {-1, 1, 2}, {9, -1, 6}, {-9, -1, 4}, {1, 9, 1}};
         for (int[] each : parts) {
             DUE.is("part at " + each[0] + ", " + each[1], each[2], partFrom(x, each[0], each[1]));
         }

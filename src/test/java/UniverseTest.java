@@ -5,12 +5,14 @@ public final class UniverseTest {
     public static void main(String[] args) {
         newObject();
         newObjectLinks();
+        newObjectLeavesGasHot();
         newObjectIsSurveyed();
         newObjectSeesAThousandFar();
         universesOfEachSide();
         universeBeginsAnew();
         universeKeepsWhatWasTold();
         ripplesMove();
+        ripplesOfEachPhase();
         ripplesRoundTheirPhaseDown();
         ripplesGoByTheLattice();
         ripplesTakeEdges();
@@ -46,6 +48,9 @@ public final class UniverseTest {
         Halofinder y = new Halofinder();
         y.ripple(1, 0, 823, 2);
         DUE.is("no halos over 201, nor of one grain", 0, y.halos(-1));
+        y.universe(2);
+        y.ripple(1, 0, 1000, 4);
+        DUE.is("halos of two grains", 2, y.halos(-1));
     }
 
     private static void newObjectIsSurveyed() {
@@ -61,6 +66,15 @@ public final class UniverseTest {
         DUE.is("the first", 0, x.sky(0, 0));
         DUE.is("the second", 3, x.sky(1, 0));
         DUE.is("how far the first is", 724, x.sky(0, 1));
+    }
+
+    private static void newObjectLeavesGasHot() {
+        Halofinder x = new Halofinder();
+        x.universe(8);
+        x.link(512, 64);
+        x.keep();
+        DUE.is("a hundred for each grain", 6400, x.galaxy(0, 0, 0));
+        DUE.is("none is cold", 0, x.galaxy(0, 0, 1));
     }
 
     private static Halofinder twoJustInSight(int amplitude, int phase) {
@@ -169,6 +183,18 @@ public final class UniverseTest {
         z.ripple(-1, 0, 1000, 0);
         DUE.is("below 0 is far right", 4096 + 512 - 703, z.grain(-1, 0, 0));
         DUE.is("its speed is not of the room", -703, z.grain(-1, 0, 2));
+    }
+
+    // With k 2 both columns of a side of 2 are 8 members of the row behind the phase.
+    private static void ripplesOfEachPhase() {
+        int[] row = {64, 59, 45, 24, 0, -24, -45, -59, -64, -59, -45, -24, 0, 24, 45, 59};
+        Halofinder x = new Halofinder();
+        for (int phase = 0; phase < 16; phase++) {
+            x.universe(2);
+            x.ripple(2, 0, 64, phase);
+            DUE.is("phase " + phase, 2 * row[(phase + 8) % 16], x.grain(-1, 0, 2));
+            DUE.is("phase " + phase + " in the other column", 2 * row[(phase + 8) % 16], x.grain(-1, 2, 2));
+        }
     }
 
     private static void ripplesRoundTheirPhaseDown() {
