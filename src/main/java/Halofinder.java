@@ -59,7 +59,7 @@ public final class Halofinder {
     }
 
     public int draw(int seed, int power) throws IllegalArgumentException, IllegalStateException {
-        needRange(seed, 0, Integer.MAX_VALUE);
+        needNotBelow0(seed);
         needRange(power, 0, 1000);
         needFirstAge();
         return drawRipples(seed, power);
@@ -223,7 +223,7 @@ public final class Halofinder {
     // ---- counts
 
     public int pairs(int from, int to) throws IllegalArgumentException {
-        needRange(from, 0, Integer.MAX_VALUE);
+        needNotBelow0(from);
         return now.grains.countPairs(from, to);
     }
 
@@ -300,6 +300,12 @@ public final class Halofinder {
     private static void needRange(int number, int lowest, int highest) {
         if (number < lowest || number > highest) {
             throw new IllegalArgumentException("an argument is out of range");
+        }
+    }
+
+    private static void needNotBelow0(int number) {
+        if (number < 0) {
+            throw new IllegalArgumentException("an argument is below 0");
         }
     }
 
