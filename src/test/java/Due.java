@@ -43,6 +43,21 @@ final class Due {
         }));
     }
 
+    /** An argument is out of range. */
+    void refused(String call, Order order) {
+        throwsIt(call, IllegalArgumentException.class, order);
+    }
+
+    /** There is no such picture, grain, halo or place. */
+    void missing(String call, Order order) {
+        throwsIt(call, IndexOutOfBoundsException.class, order);
+    }
+
+    /** The state does not let it. */
+    void tooLate(String call, Order order) {
+        throwsIt(call, IllegalStateException.class, order);
+    }
+
     static String answerOf(Call asked) {
         try {
             return Long.toString(asked.answer());
