@@ -16,6 +16,7 @@ public final class EdgesOfCallsTest {
         askingChangesNothing();
         objectsAreApart();
         fiveHundredAndTwelveCalls();
+        theGreatestSpeeds();
         DUE.end();
     }
 
@@ -273,5 +274,42 @@ public final class EdgesOfCallsTest {
         }
         DUE.is("the 511th", 0, x.keep());
         DUE.is("the 512th", -1, x.grains(0, 0));
+    }
+
+    // The same of calls that all hasten: 440 ripples of 3000 are a speed of 1320000, which goes round the room
+    // in a step.
+    private static void theGreatestSpeeds() {
+        Halofinder x = new Halofinder();
+        Reference y = new Reference();
+        x.universe(2);
+        y.universe(2);
+        for (int call = 0; call < 440; call++) {
+            x.ripple(3, -3, 1000, 0);
+            y.ripple(3, -3, 1000, 0);
+        }
+        DUE.is("the speed", 1320000, x.grain(-1, 0, 2));
+        x.pull(10000, 10);
+        y.pull(10000, 10);
+        x.recipes(1000, 1000, 5000);
+        y.recipes(1000, 1000, 5000);
+        x.link(2000, 1);
+        y.link(2000, 1);
+        x.observe(4095, 0, 4000);
+        y.observe(4095, 0, 4000);
+        x.step(20);
+        y.step(20);
+        DUE.is("the picture", y.keep(), x.keep());
+        for (int what = 0; what < 4; what++) {
+            DUE.is("what " + what + " of grain 0", y.grain(0, 0, what), x.grain(0, 0, what));
+            DUE.is("what " + what + " of grain 3", y.grain(0, 3, what), x.grain(0, 3, what));
+        }
+        for (int what = 0; what < 6; what++) {
+            DUE.is("what " + what + " of the halo", y.ofHalo(0, 0, what), x.ofHalo(0, 0, what));
+        }
+        for (int what = 0; what < 5; what++) {
+            DUE.is("what " + what + " of the sky", y.sky(0, what), x.sky(0, what));
+        }
+        DUE.is("bound grains", y.bound(0, 0), x.bound(0, 0));
+        DUE.is("momentum", y.momentum(true), x.momentum(true));
     }
 }

@@ -15,6 +15,7 @@ public final class EdgesOfRoomTest {
         howFarIsWhole();
         latticesOfEachSide();
         newObjectsAreAsTold();
+        newGrainsAreNotHeld();
         newHalosHaveTwoGrains();
         newObserversSeeAThousand();
         newSkiesAreUnmasked();
@@ -147,6 +148,18 @@ public final class EdgesOfRoomTest {
         DUE.is("the first picture", 0, x.keep());
         DUE.is("gas that stays hot", 300, x.galaxy(0, 0, 0));
         DUE.is("the age was 1", 2, x.step(1));
+    }
+
+    // "with g 0": the last grain has a push of 2072776, the first of 2072680; with g 1 they would have holds
+    // of 67 and 9, and the first would go first.
+    private static void newGrainsAreNotHeld() {
+        Halofinder x = Scenes.placed(new int[] {2056, 2048, 2080, 2080}, new int[] {2048, 2056, 2048, 2048});
+        x.link(100, 4);
+        DUE.is("bound with the g of a new object", 4, x.bound(-1, 0));
+        x.pull(1, 100);
+        DUE.is("bound with g 1", 8, x.bound(-1, 0));
+        x.pull(0, 100);
+        DUE.is("bound with g 0", 4, x.bound(-1, 0));
     }
 
     // "a least number of 2": two pairs, 48 apart

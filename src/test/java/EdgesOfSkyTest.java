@@ -8,6 +8,7 @@ public final class EdgesOfSkyTest {
         galaxiesWithStars();
         nothingIsSeen();
         sixtyFourAreSeen();
+        moreThanSixtyFourAreSeen();
         fromNothingToTheDepth();
         depthsOfTwelvePictures();
         theGreatestDepth();
@@ -151,6 +152,41 @@ public final class EdgesOfSkyTest {
         DUE.is("the last one is twice that away", 963, x.sky(63, 0));
         x.observe(2048, 2048, 1268);
         DUE.is("less than twice", 1063, x.sky(63, 0));
+    }
+
+    // The same of grains that are seen in more than one picture, as they come nearer: as many as the Reference
+    // sees, in its order.
+    private static void moreThanSixtyFourAreSeen() {
+        Halofinder x = new Halofinder();
+        Reference y = new Reference();
+        x.universe(8);
+        y.universe(8);
+        x.link(1, 1);
+        y.link(1, 1);
+        x.recipes(500, 500, 0);
+        y.recipes(500, 500, 0);
+        for (int turn = 0; turn < 4; turn++) {
+            x.ripple(3, 3, 962, 1);
+            y.ripple(3, 3, 962, 1);
+        }
+        int[] steps = {1, 7, 7};
+        for (int many : steps) {
+            x.keep();
+            y.keep();
+            x.step(many);
+            y.step(many);
+        }
+        x.keep();
+        y.keep();
+        x.observe(3958, 309, 605);
+        y.observe(3958, 309, 605);
+        DUE.is("86 are seen", 86, x.seen());
+        for (int place = 0; place < 86; place++) {
+            for (int what = 0; what < 5; what++) {
+                DUE.is("sky(" + place + ", " + what + ")", y.sky(place, what), x.sky(place, what));
+            }
+        }
+        DUE.missing("sky(86, 0)", () -> x.sky(86, 0));
     }
 
     private static void seenAt(Halofinder x, int distance, int depth, int... want) {
